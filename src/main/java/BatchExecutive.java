@@ -166,7 +166,7 @@ public final class BatchExecutive {
         record();
         present.latestVersions[recipe]++;
         int version = present.latestVersions[recipe];
-        book.write(recipe, version, text);
+        book.write(Book.pageOf(recipe, version), text);
         return version;
     }
 
@@ -181,10 +181,8 @@ public final class BatchExecutive {
         if (phase < 0 || !isWithin(what, 0, PHASE_VALUES - 1)) {
             return INVALID_ARGUMENT;
         }
-        if (phase >= book.phasesOf(recipe, version)) {
-            return NOT_FOUND;
-        }
-        return orNotFound(book.find(recipe, version, phase, what));
+        int page = Book.pageOf(recipe, version);
+        return phase < book.lengths[page] ? orNotFound(book.find(page, phase, what)) : NOT_FOUND;
     }
 
     // ---- batches
@@ -519,32 +517,27 @@ public final class BatchExecutive {
     }
 
     /**
-     * The phases of all versions. They need no place in the history: a number of a version is
-     * given anew only when undo has taken it back, and then no state that is left knows the old one.
-     * Recipes, versions and phases must be ones that there are: the callers have looked.
+     * The phases of all versions, a page for each. They need no place in the history: a number of
+     * a version is given anew only when undo has taken it back, and then no state that is left
+     * knows the old one. The callers have looked whether there is the version, and the phase.
      */
     private static final class Book {
         final int[] lengths = new int[RECIPES * MOST_VERSIONS];
         final int[][] values = new int[PHASE_VALUES][RECIPES * MOST_VERSIONS * MOST_PHASES];
 
-        void write(int recipe, int version, Text source) {
-            int page = pageOf(recipe, version);
+        static int pageOf(int recipe, int version) {
+            return recipe * MOST_VERSIONS + version - 1;
+        }
+
+        void write(int page, Text source) {
             lengths[page] = source.phaseCount;
             for (int what = 0; what < PHASE_VALUES; what++) {
                 System.arraycopy(source.values[what], 0, values[what], page * MOST_PHASES, MOST_PHASES);
             }
         }
 
-        int phasesOf(int recipe, int version) {
-            return lengths[pageOf(recipe, version)];
-        }
-
-        int find(int recipe, int version, int phase, int what) {
-            return values[what][pageOf(recipe, version) * MOST_PHASES + phase];
-        }
-
-        private static int pageOf(int recipe, int version) {
-            return recipe * MOST_VERSIONS + version - 1;
+        int find(int page, int phase, int what) {
+            return values[what][page * MOST_PHASES + phase];
         }
     }
 
@@ -809,14 +802,15 @@ public final class BatchExecutive {
 
         /** Of its phase, so only for a batch that is not complete: it would be behind the last one. */
         private int valueOf(Batch batch, int what) {
-            return book.find(batch.recipe, batch.version, batch.phase, what);
+            return book.find(Book.pageOf(batch.recipe, batch.version), batch.phase, what);
         }
 
         // -- commands
 
         void holdBatch(int number) {
             releasePieces(number);
-            enter(number, HELD, IS_HELD);
+            batches[number].state = HELD;
+            journal.add(ticks, number, IS_HELD);
         }
 
         void restartBatch(int number) {
@@ -824,7 +818,8 @@ public final class BatchExecutive {
             if (valueOf(batch, MARK) == 1) {
                 batch.ticksDone = 0;
             }
-            enter(number, RUNNING, IS_RESTARTED);
+            batch.state = RUNNING;
+            journal.add(ticks, number, IS_RESTARTED);
         }
 
         void stopBatch(int number) {
@@ -832,7 +827,7 @@ public final class BatchExecutive {
             if (batch.state == RUNNING && batch.isUnderWay()) {
                 batch.state = STOPPING;
             } else {
-                giveUp(number, STOPPED, IS_STOPPED);
+                bringToEnd(number, STOPPED, IS_STOPPED);
             }
         }
 
@@ -841,26 +836,22 @@ public final class BatchExecutive {
          * was aborted earlier took along all that follow it, so who is left follows one of this call.
          */
         int abortWithFollowing(int first) {
-            giveUp(first, ABORTED, IS_ABORTED);
+            bringToEnd(first, ABORTED, IS_ABORTED);
             int aborted = 1;
             for (int number = first + 1; number < batchCount; number++) {
                 int before = batches[number].before;
                 if (before != NONE && batches[before].state == ABORTED && !batches[number].isAtEnd()) {
-                    giveUp(number, ABORTED, IS_ABORTED);
+                    bringToEnd(number, ABORTED, IS_ABORTED);
                     aborted++;
                 }
             }
             return aborted;
         }
 
-        private void giveUp(int number, int end, int happening) {
+        private void bringToEnd(int number, int end, int happening) {
             releasePieces(number);
             releaseUnit(batches[number]);
-            enter(number, end, happening);
-        }
-
-        private void enter(int number, int state, int happening) {
-            batches[number].state = state;
+            batches[number].state = end;
             journal.add(ticks, number, happening);
         }
 
@@ -979,10 +970,10 @@ public final class BatchExecutive {
             batch.phase++;
             batch.ticksDone = 0;
             journal.add(ticks, number, PHASE_ENDS);
-            if (batch.phase >= book.phasesOf(batch.recipe, batch.version)) {
-                giveUp(number, COMPLETE, IS_COMPLETE);
+            if (batch.phase >= book.lengths[Book.pageOf(batch.recipe, batch.version)]) {
+                bringToEnd(number, COMPLETE, IS_COMPLETE);
             } else if (batch.state == STOPPING) {
-                giveUp(number, STOPPED, IS_STOPPED);
+                bringToEnd(number, STOPPED, IS_STOPPED);
             } else if (valueOf(batch, KIND) != kind) {
                 releaseUnit(batch);
             }

@@ -40,6 +40,10 @@ public final class CommandsTest {
         due.is("event's tick", x.event(0, 0), 1);
         due.is("event's batch", x.event(0, 1), 0);
         due.is("hold again", x.hold(0), -2);
+        due.is("undo of the hold", x.undo(), 3);
+        due.is("it runs", x.batchInfo(0, 5), 1);
+        due.is("with its equipment", x.shared(0), 0);
+        due.is("hold once more", x.hold(0), 1);
         due.is("hold of the other", x.hold(1), 2);
         due.is("ticks for nothing", x.run(9), 0);
         due.is("nothing was done", x.unitInfo(0, 5), 1);
@@ -63,6 +67,11 @@ public final class CommandsTest {
         x.run(1);
         due.is("here", x.shared(0), 0);
         due.is("no second unit was got", x.event(0, 2), 3);
+        due.is("undo of the tick", x.undo(), 3);
+        due.is("undo of the restart", x.undo(), 2);
+        due.is("held", x.batchInfo(0, 5), 2);
+        x.restart(0);
+        x.run(1);
         due.is("to its end", x.run(2), 1);
         due.is("restart of a complete one", x.restart(0), -2);
     }
@@ -185,8 +194,12 @@ public final class CommandsTest {
         due.is("stop of one that waits", x.stop(1), 4);
         due.is("abort", x.abort(0), 1);
         due.is("the stopped one stays so", x.batchInfo(1, 5), 4);
+        due.is("no event of it", x.event(0, 1) * 10 + x.event(1, 1), 1);
         due.is("the one behind it is left", x.batchInfo(2, 5), 0);
         due.is("it can be aborted itself", x.abort(2), 1);
+        x = started("m3;");
+        x.batch(0, 9, 0, 0);
+        due.is("the very next one follows", x.abort(0), 2);
         x = started("m1;");
         x.run(1);
         due.is("abort of a complete one", x.abort(0), -2);

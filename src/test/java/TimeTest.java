@@ -12,6 +12,8 @@ public final class TimeTest {
         journalIsShort(due);
         undo(due);
         errorsChangeNothing(due);
+        everyChangeIsKept(due);
+        fullHouse(due);
         due.end();
     }
 
@@ -113,6 +115,9 @@ public final class TimeTest {
         x.run(1);
         x.stop(0);
         due.is("a stopping one in its last phase", x.ticksTo(0), 4);
+        x.batch(0, 6, 0, -1);
+        x.start(1);
+        due.is("one for which the unit is too small", x.ticksTo(1), -4);
     }
 
     /** Batches of 8 phases of 99 ticks, one behind the other: 792 ticks each. */
@@ -138,7 +143,9 @@ public final class TimeTest {
         x.setCleaning(4);
         due.is("beyond", x.ticksTo(2), -4);
         due.is("far beyond", x.ticksTo(3), -4);
-        x.run(2);
+        x.run(1);
+        due.is("one tick beyond", x.ticksTo(2), -4);
+        x.run(1);
         due.is("within again", x.ticksTo(2), 2000);
         for (int call = 0; call < 97; call++) {
             x.run(1);
@@ -229,6 +236,30 @@ public final class TimeTest {
         due.is("undo of a restart", x.undo(), 2);
         due.is("the latest is another", x.event(0, 2), 2);
         due.is("the oldest is back", x.event(39, 0) * 10 + x.event(39, 2), 93);
+        overwrittenEventsComeBack(due);
+    }
+
+    /** Two events of another batch and kind take the rows of the oldest ones, and give them back. */
+    private static void overwrittenEventsComeBack(Due due) {
+        BatchExecutive x = Due.withText("m9;");
+        x.recipe(0);
+        x.batch(0, 5, 0, -1);
+        x.batch(0, 5, 0, -1);
+        x.batch(0, 5, 0, 1);
+        x.start(0);
+        for (int round = 0; round < 20; round++) {
+            x.hold(0);
+            x.restart(0);
+        }
+        x.abort(1);
+        due.is("the latest", x.event(0, 1) * 10 + x.event(0, 2), 25);
+        due.is("the one ahead", x.event(1, 1) * 10 + x.event(1, 2), 15);
+        due.is("the oldest", x.event(39, 2), 2);
+        due.is("undo", x.undo(), 3);
+        for (int index = 0; index < 40; index++) {
+            due.is("batch of event " + index, x.event(index, 1), 0);
+            due.is("event " + index, x.event(index, 2), index % 2 == 0 ? 3 : 2);
+        }
     }
 
     private static void undo(Due due) {
@@ -281,6 +312,95 @@ public final class TimeTest {
         due.is("its size", x.batchInfo(0, 2), 2);
         due.is("its state", x.batchInfo(0, 5), 0);
         due.is("its unit", x.batchInfo(0, 8), -4);
+    }
+
+    /** Each of the 13 changes can be seen, and undo takes just that one back. */
+    private static void everyChangeIsKept(Due due) {
+        for (int change = 0; change < 13; change++) {
+            BatchExecutive x = Due.withText("m5a;");
+            x.unit(0, 9);
+            x.unit(0, 9);
+            x.fail(1);
+            x.recipe(0);
+            for (int number = 0; number < 3; number++) {
+                x.batch(0, 9, 1, -1);
+            }
+            x.start(0);
+            x.start(1);
+            x.hold(1);
+            x.run(2);
+            String before = look(x);
+            make(x, change);
+            due.holds("change " + change + " can be seen", !look(x).equals(before));
+            due.is("undo of change " + change, x.undo(), 3);
+            due.holds("all is as before change " + change, look(x).equals(before));
+        }
+    }
+
+    private static void make(BatchExecutive x, int change) {
+        switch (change) {
+            case 0: x.unit(3, 3); break;
+            case 1: x.fail(0); break;
+            case 2: x.repair(1); break;
+            case 3: x.recipe(0); break;
+            case 4: x.batch(0, 1, 1, 1); break;
+            case 5: x.start(2); break;
+            case 6: x.hold(0); break;
+            case 7: x.restart(1); break;
+            case 8: x.stop(0); break;
+            case 9: x.abort(0); break;
+            case 10: x.priority(0, 9); break;
+            case 11: x.setCleaning(9); break;
+            default: x.run(1); break;
+        }
+    }
+
+    /** Some answers that tell all changes of everyChangeIsKept from one another. */
+    private static String look(BatchExecutive x) {
+        StringBuilder text = new StringBuilder();
+        for (int what = 0; what <= 17; what++) {
+            text.append(what == 14 ? 0 : x.count(what)).append(' ');
+        }
+        for (int batch = 0; batch < 3; batch++) {
+            for (int what = 0; what <= 11; what++) {
+                text.append(x.batchInfo(batch, what)).append(' ');
+            }
+        }
+        return text.append(x.versions(0)).append(' ').append(x.event(0, 2)).toString();
+    }
+
+    /** All units and batches that there can be. */
+    private static void fullHouse(Due due) {
+        BatchExecutive x = Due.withText("m1;m1;m1;m1;m1;m1;m1;m1;");
+        for (int number = 0; number < 8; number++) {
+            x.unit(0, 10 + number);
+        }
+        due.is("all are free", x.count(2), 8);
+        for (int version = 1; version <= 9; version++) {
+            x.recipe(5);
+        }
+        for (int number = 0; number < 12; number++) {
+            x.batch(5, 10, 0, -1);
+            x.start(number);
+        }
+        due.is("the last one waits for cleaning", x.ticksTo(11), 17);
+        x.run(7);
+        due.is("none is free", x.count(2), 0);
+        due.is("a ninth batch waits", x.waits(8), 2);
+        due.is("worked", x.count(16), 56);
+        due.is("eight are complete", x.run(1), 8);
+        due.is("it waits still", x.waits(8), 2);
+        x.run(1);
+        due.is("one tick of cleaning is left", x.waits(8), 0);
+        due.is("the others", x.run(8), 4);
+        due.is("free ones again", x.count(2), 4);
+        due.is("all are complete", x.count(10), 12);
+        for (int number = 0; number < 8; number++) {
+            x.fail(number);
+        }
+        due.is("all are broken", x.count(1), 8);
+        due.is("none is free then", x.count(2), 0);
+        due.is("the last one is repaired", x.repair(7), 7);
     }
 
     private static void errorsChangeNothing(Due due) {
