@@ -134,7 +134,7 @@ public final class BatchExecutive {
     }
 
     public int shared(int piece) {
-        if (!isWithin(piece, 0, PIECES - 1)) {
+        if (!isPiece(piece)) {
             return INVALID_ARGUMENT;
         }
         return orNotFound(present.pieceHolders[piece]);
@@ -182,7 +182,7 @@ public final class BatchExecutive {
             return INVALID_ARGUMENT;
         }
         int page = Book.pageOf(recipe, version);
-        return phase < book.lengths[page] ? orNotFound(book.find(page, phase, what)) : NOT_FOUND;
+        return phase < book.lengthOf(page) ? orNotFound(book.find(page, phase, what)) : NOT_FOUND;
     }
 
     // ---- batches
@@ -437,11 +437,15 @@ public final class BatchExecutive {
     }
 
     private boolean isUnit(int number) {
-        return isWithin(number, 0, present.unitCount - 1);
+        return present.hasUnit(number);
     }
 
     private boolean isBatch(int number) {
-        return isWithin(number, 0, present.batchCount - 1);
+        return present.hasBatch(number);
+    }
+
+    private static boolean isPiece(int number) {
+        return isWithin(number, 0, PIECES - 1);
     }
 
     private static boolean isRecipe(int number) {
@@ -519,11 +523,11 @@ public final class BatchExecutive {
     /**
      * The phases of all versions, a page for each. They need no place in the history: a number of
      * a version is given anew only when undo has taken it back, and then no state that is left
-     * knows the old one. The callers have looked whether there is the version, and the phase.
+     * knows the old one.
      */
     private static final class Book {
-        final int[] lengths = new int[RECIPES * MOST_VERSIONS];
-        final int[][] values = new int[PHASE_VALUES][RECIPES * MOST_VERSIONS * MOST_PHASES];
+        private final int[] lengths = new int[RECIPES * MOST_VERSIONS];
+        private final int[][] values = new int[PHASE_VALUES][RECIPES * MOST_VERSIONS * MOST_PHASES];
 
         static int pageOf(int recipe, int version) {
             return recipe * MOST_VERSIONS + version - 1;
@@ -536,7 +540,16 @@ public final class BatchExecutive {
             }
         }
 
+        /** The number of phases, 0 if there is no such page. */
+        int lengthOf(int page) {
+            return page >= 0 && page < lengths.length ? lengths[page] : 0;
+        }
+
+        /** What must be one of the values of a phase; NONE is found where there is no such phase. */
         int find(int page, int phase, int what) {
+            if (page < 0 || page >= lengths.length || phase < 0 || phase >= lengths[page]) {
+                return NONE;
+            }
             return values[what][page * MOST_PHASES + phase];
         }
     }
@@ -680,6 +693,10 @@ public final class BatchExecutive {
 
         // -- units and shared equipment
 
+        boolean hasUnit(int number) {
+            return number >= 0 && number < unitCount;
+        }
+
         int addUnit(int kind, int capacity) {
             int number = unitCount;
             units[number].reset(kind, capacity);
@@ -691,7 +708,7 @@ public final class BatchExecutive {
         int breakUnit(int number) {
             units[number].broken = true;
             int holder = units[number].holder;
-            if (holder == NONE || !batches[holder].isActive()) {
+            if (!hasBatch(holder) || !batches[holder].isActive()) {
                 return NONE;
             }
             holdBatch(holder);
@@ -749,7 +766,7 @@ public final class BatchExecutive {
         }
 
         private void releaseUnit(Batch batch) {
-            if (batch.unit == NONE) {
+            if (!hasUnit(batch.unit)) {
                 return;
             }
             units[batch.unit].holder = NONE;
@@ -766,6 +783,10 @@ public final class BatchExecutive {
         }
 
         // -- batches
+
+        boolean hasBatch(int number) {
+            return number >= 0 && number < batchCount;
+        }
 
         int addBatch(int recipe, int size, int priority, int before) {
             int number = batchCount;
@@ -785,7 +806,7 @@ public final class BatchExecutive {
         }
 
         boolean isGivenUp(int number) {
-            if (number == NONE) {
+            if (!hasBatch(number)) {
                 return false;
             }
             return batches[number].state == STOPPED || batches[number].state == ABORTED;
@@ -793,7 +814,7 @@ public final class BatchExecutive {
 
         boolean hasBrokenUnit(int number) {
             int unit = batches[number].unit;
-            return unit != NONE && units[unit].broken;
+            return hasUnit(unit) && units[unit].broken;
         }
 
         int ticksLeft(int number) {
@@ -840,7 +861,7 @@ public final class BatchExecutive {
             int aborted = 1;
             for (int number = first + 1; number < batchCount; number++) {
                 int before = batches[number].before;
-                if (before != NONE && batches[before].state == ABORTED && !batches[number].isAtEnd()) {
+                if (hasBatch(before) && batches[before].state == ABORTED && !batches[number].isAtEnd()) {
                     bringToEnd(number, ABORTED, IS_ABORTED);
                     aborted++;
                 }
@@ -882,7 +903,7 @@ public final class BatchExecutive {
             boolean moved = cleanUnits();
             for (int place = 0; place < orderCount; place++) {
                 int number = order[place];
-                if (batches[number].isActive() && moveOn(number)) {
+                if (hasBatch(number) && batches[number].isActive() && moveOn(number)) {
                     moved = true;
                 }
             }
@@ -904,14 +925,14 @@ public final class BatchExecutive {
         /** The reason for which an active batch waits, when so many more ticks have cleaned. */
         int reasonToWait(int number, int cleaned) {
             Batch batch = batches[number];
-            if (!batch.hasBegun() && batch.before != NONE && batches[batch.before].state != COMPLETE) {
+            if (!batch.hasBegun() && hasBatch(batch.before) && batches[batch.before].state != COMPLETE) {
                 return WAITS_FOR_BATCH;
             }
             if (batch.unit == NONE && unitFor(batch, cleaned) == NONE) {
                 return WAITS_FOR_UNIT;
             }
             int piece = valueOf(batch, PIECE);
-            if (piece != NONE && pieceHolders[piece] != NONE && pieceHolders[piece] != number) {
+            if (isPiece(piece) && pieceHolders[piece] != NONE && pieceHolders[piece] != number) {
                 return WAITS_FOR_PIECE;
             }
             return WAITS_FOR_NOTHING;
@@ -927,7 +948,9 @@ public final class BatchExecutive {
             if (reason == WAITS_FOR_PIECE) {
                 return gotUnit;
             }
-            work(number);
+            if (work(number)) {
+                endPhase(number);
+            }
             return true;
         }
 
@@ -946,20 +969,19 @@ public final class BatchExecutive {
             return true;
         }
 
-        private void work(int number) {
+        /** Does one tick of its phase and returns whether all of them are done then. */
+        private boolean work(int number) {
             Batch batch = batches[number];
-            if (batch.unit == NONE) {
-                return;
+            if (!hasUnit(batch.unit)) {
+                return false;
             }
             int piece = valueOf(batch, PIECE);
-            if (piece != NONE) {
+            if (isPiece(piece)) {
                 pieceHolders[piece] = number;
             }
             batch.ticksDone++;
             units[batch.unit].worked++;
-            if (batch.ticksDone >= valueOf(batch, DURATION)) {
-                endPhase(number);
-            }
+            return batch.ticksDone >= valueOf(batch, DURATION);
         }
 
         private void endPhase(int number) {
@@ -970,7 +992,7 @@ public final class BatchExecutive {
             batch.phase++;
             batch.ticksDone = 0;
             journal.add(ticks, number, PHASE_ENDS);
-            if (batch.phase >= book.lengths[Book.pageOf(batch.recipe, batch.version)]) {
+            if (batch.phase >= book.lengthOf(Book.pageOf(batch.recipe, batch.version))) {
                 bringToEnd(number, COMPLETE, IS_COMPLETE);
             } else if (batch.state == STOPPING) {
                 bringToEnd(number, STOPPED, IS_STOPPED);
