@@ -181,8 +181,7 @@ public final class BatchExecutive {
         if (phase < 0 || !isWithin(what, 0, PHASE_VALUES - 1)) {
             return INVALID_ARGUMENT;
         }
-        int page = Book.pageOf(recipe, version);
-        return phase < book.lengthOf(page) ? orNotFound(book.find(page, phase, what)) : NOT_FOUND;
+        return orNotFound(book.find(Book.pageOf(recipe, version), phase, what));
     }
 
     // ---- batches

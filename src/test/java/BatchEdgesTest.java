@@ -37,6 +37,8 @@ public final class BatchEdgesTest {
         waitsForAWholeUnit(due);
         waitsForALargeUnit(due);
         waitsForAUnitOfTheKind(due);
+        waitsForOneOfAllEight(due);
+        waitsForAUnitThatIsUndone(due);
         waitsForAPiece(due);
         waitsAsIfFirst(due);
         inOrderBelowZero(due);
@@ -438,6 +440,30 @@ public final class BatchEdgesTest {
             x.unit(kind, 10);
             due.is("its own", x.waits(0), 0);
         }
+    }
+
+    /** "no unit ... is free": all that there can be are taken. */
+    private static void waitsForOneOfAllEight(Due due) {
+        BatchExecutive x = Scene.of("m2;", 0, 0, 0, 0, 0, 0, 0, 0);
+        for (int batch = 0; batch < 9; batch++) {
+            Scene.go(x);
+        }
+        x.run(1);
+        due.is("the eighth has the last one", x.batchInfo(7, 8), 7);
+        due.is("the ninth has none", x.batchInfo(8, 8), -4);
+        due.is("and waits", x.waits(8), 2);
+    }
+
+    /** "no unit ... is free": one that undo took back is no unit. */
+    private static void waitsForAUnitThatIsUndone(Due due) {
+        BatchExecutive x = Scene.of("m2;");
+        Scene.go(x);
+        x.unit(0, 10);
+        due.is("it is there", x.waits(0), 0);
+        x.undo();
+        due.is("it is not there", x.waits(0), 2);
+        x.run(1);
+        due.is("nobody got it", x.batchInfo(0, 8), -4);
     }
 
     /** "shared equipment that it does not have, and this is not free". */

@@ -6,6 +6,7 @@ public final class RecipeEdgesTest {
         Due due = new Due("RecipeEdgesTest");
         sixRecipes(due);
         atMostNineVersions(due);
+        eachVersionHasItsOwnPhases(due);
         noneAtFirst(due);
         oneToEightPhases(due);
         durations(due);
@@ -54,6 +55,17 @@ public final class RecipeEdgesTest {
         due.is("undo makes room", x.versions(3), 8);
         due.is("for the ninth", x.recipe(3), 9);
         due.is("and no more", x.recipe(3), -3);
+    }
+
+    /** "There are 6 recipes", "at most 9" versions: all 54 of them, each with phases of its own. */
+    private static void eachVersionHasItsOwnPhases(Due due) {
+        BatchExecutive x = new BatchExecutive();
+        for (int number = 1; number <= 54; number++) {
+            due.is("version", Due.recipe(x, (number - 1) / 9, "r" + number + ";"), (number - 1) % 9 + 1);
+        }
+        for (int number = 1; number <= 54; number++) {
+            due.is("its duration", x.phase((number - 1) / 9, (number - 1) % 9 + 1, 0, 1), number);
+        }
     }
 
     /** "it has none at first"; "0 if there is none". */

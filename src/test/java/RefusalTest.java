@@ -35,13 +35,18 @@ public final class RefusalTest {
 
     // ---- scenes
 
-    /** Seven batches in the seven states, a broken unit, a text with a fault, and two changes to undo. */
+    /**
+     * Seven batches in the seven states and one, 7, under way with the piece 1 and the unit 5, a broken
+     * unit, 4, a text with a fault, and two changes of cleaning to undo.
+     */
     private static BatchExecutive many() {
         BatchExecutive x = Scene.states();
         x.unit(3, 5);
         x.fail(4);
-        Due.recipe(x, 2, "m3s1;p2y50a;");
+        x.unit(0, 5);
+        Due.recipe(x, 2, "m3s1y50a;p2y50a;");
         x.start(x.batch(2, 5, 3, -1));
+        x.run(1);
         x.type('x');
         x.setCleaning(3);
         x.setCleaning(4);
@@ -196,11 +201,11 @@ public final class RefusalTest {
         add("unit of no kind", -1, x -> x.unit(4, 1));
         add("unit without capacity", -1, x -> x.unit(0, 0));
         add("a ninth unit", RefusalTest::full, -3, x -> x.unit(0, 1));
-        add("fail of no unit", -1, x -> x.fail(5));
+        add("fail of no unit", -1, x -> x.fail(6));
         add("fail of a broken unit", -2, x -> x.fail(4));
-        add("repair of no unit", -1, x -> x.repair(5));
+        add("repair of no unit", -1, x -> x.repair(6));
         add("repair of a whole unit", -2, x -> x.repair(0));
-        add("unitInfo of no unit", -1, x -> x.unitInfo(5, 0));
+        add("unitInfo of no unit", -1, x -> x.unitInfo(6, 0));
         add("unitInfo of nobody's", -4, x -> x.unitInfo(3, 2));
         add("shared(3)", -1, x -> x.shared(3));
         add("shared(0)", -4, x -> x.shared(0));
@@ -287,14 +292,14 @@ public final class RefusalTest {
         add("versions", 1, x -> x.versions(2));
         add("phase", 50, x -> x.phase(2, 1, 1, 3));
         add("batchInfo", Float.floatToIntBits(5f), x -> x.batchInfo(7, 10));
-        add("waits", 2, x -> x.waits(7));
+        add("waits", 0, x -> x.waits(7));
         add("waits for another", RefusalTest::full, 0, x -> x.waits(1));
         add("inOrder", 7, x -> x.inOrder(0));
         add("ticksTo", RefusalTest::full, 1, x -> x.ticksTo(1));
         add("ticksTo at the limit", RefusalTest::old, 2, x -> x.ticksTo(0));
         add("count", 8, x -> x.count(3));
-        add("event", 5, x -> x.event(0, 2));
-        add("fault", 12, x -> x.fault(0));
+        add("event", 0, x -> x.event(0, 2));
+        add("fault", 16, x -> x.fault(0));
         for (Case each : cases) {
             compare(each);
         }
@@ -304,18 +309,21 @@ public final class RefusalTest {
 
     /** "The changes are the calls of unit, fail, repair, recipe, ...": each can be undone, and is one state. */
     private void changesAreKept() {
-        add("unit", 5, x -> x.unit(3, 3));
+        add("unit", 6, x -> x.unit(3, 3));
         add("fail with a batch", 1, x -> x.fail(0));
+        add("fail with a batch that has a piece", 7, x -> x.fail(5));
         add("fail without a batch", -4, x -> x.fail(3));
         add("repair", 0, x -> x.repair(4));
         add("recipe", RefusalTest::recipeAhead, 2, x -> x.recipe(2));
         add("batch", 8, x -> x.batch(0, 1, 1, 1));
         add("start", 3, x -> x.start(0));
         add("hold", 2, x -> x.hold(1));
+        add("hold of one that has a piece", 2, x -> x.hold(7));
         add("restart", 2, x -> x.restart(2));
         add("stop under way", 3, x -> x.stop(1));
         add("stop at once", 4, x -> x.stop(2));
         add("abort", 1, x -> x.abort(3));
+        add("abort of one that has a piece", 1, x -> x.abort(7));
         add("priority", 3, x -> x.priority(7, 9));
         add("the same priority", 0, x -> x.priority(0, 0));
         add("setCleaning", 2, x -> x.setCleaning(9));
@@ -368,8 +376,9 @@ public final class RefusalTest {
         x.event(0, 0);
         x.fault(0);
         due.is("states", x.count(14), 2);
+        due.is("under way", x.batchInfo(7, 9), 1);
         due.is("undo of the last change but these", x.undo(), 1);
-        due.is("the batch was not started then", x.batchInfo(7, 5), 0);
+        due.is("that was a run", x.batchInfo(7, 9), 0);
     }
 
     /** "An object is used for at most 512 calls": the 512th answers like the first. */

@@ -34,7 +34,7 @@ final class Scene {
      * and 2 and have done one tick of three; batch 6 was in the unit 3, which has to be cleaned.
      */
     static BatchExecutive states() {
-        BatchExecutive x = of("m3;r3;", 0, 0, 0, 0);
+        BatchExecutive x = of("m3y50;r3;", 0, 0, 0, 0);
         Due.recipe(x, 1, "m1;");
         for (int batch = 0; batch < 6; batch++) {
             x.batch(0, 10, 0, -1);

@@ -39,6 +39,8 @@ public final class TickEdgesTest {
         ticksToOneTick(due);
         ticksToAtItsEdge(due);
         ticksToOfOneThatWaitsForEver(due);
+        ticksToOfOneTooLarge(due);
+        ticksToThroughCleaning(due);
         ticksToOfAStoppingOne(due);
         ticksToIsWhatRunFinds(due);
         ticksToNearTheLimit(due);
@@ -581,6 +583,28 @@ public final class TickEdgesTest {
         due.is("all units are broken", x.ticksTo(0), -4);
         x.repair(1);
         due.is("another is whole", x.ticksTo(0), 2);
+    }
+
+    /** "NOT_FOUND": one that no unit is large enough for. */
+    private static void ticksToOfOneTooLarge(Due due) {
+        BatchExecutive x = Scene.of("m2;", 0);
+        x.start(x.batch(0, 11, 0, -1));
+        x.start(x.batch(0, 10, 0, -1));
+        due.is("a size of 11 for a capacity of 10", x.ticksTo(0), -4);
+        due.is("a size of 10", x.ticksTo(1), 2);
+    }
+
+    /** "after how many ticks": also those in which nothing is done but cleaning. */
+    private static void ticksToThroughCleaning(Due due) {
+        BatchExecutive x = Scene.of("m1;", 0);
+        x.setCleaning(30);
+        Scene.go(x);
+        x.run(1);
+        Scene.go(x);
+        due.is("in the last tick of cleaning it works", x.ticksTo(1), 30);
+        x.run(29);
+        due.is("not complete by the one ahead of it", x.batchInfo(1, 5), 1);
+        due.is("but by that", x.run(1), 1);
     }
 
     /** A stopping batch is complete by its last phase, and not by another. */

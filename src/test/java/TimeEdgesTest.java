@@ -416,16 +416,19 @@ public final class TimeEdgesTest {
     private static void undoOfTheRing(Due due) {
         BatchExecutive x = Scene.of("m9;", 0);
         Scene.go(x);
+        Scene.go(x, 9, -1);
         for (int number = 0; number < 40; number++) {
             holdOrRestart(x, number);
         }
         x.run(9);
+        due.is("they are those of the other batch", x.event(2, 1) + x.event(1, 1) + x.event(0, 1), 3);
         due.is("pushed out: two holds and a restart", x.event(39, 2), 3);
         due.is("in: a unit got, an end, complete", x.event(2, 2) * 100 + x.event(1, 2) * 10 + x.event(0, 2), 16);
         x.undo();
         for (int index = 0; index < 40; index++) {
             due.is("event " + index, x.event(index, 2), index % 2 == 0 ? 3 : 2);
             due.is("its tick", x.event(index, 0), 0);
+            due.is("its batch", x.event(index, 1), 0);
         }
     }
 

@@ -3,8 +3,9 @@
  * same. The choices come from a generator of its own with fixed seeds, so each run is the same.
  */
 public final class WalkTest {
-    private static final int WALKS = 1500;
-    private static final int CALLS = 511;
+    private static final int WALKS = 1900;
+    /** The last step may take some 110 more, and behind 512 of them every answer is free. */
+    private static final int CALLS = 400;
     private static final int[] ODD = {Integer.MIN_VALUE, -5, -1, 12, 13, 100, 127, 501, 10001, 50000, Integer.MAX_VALUE};
 
     private final Due due;
